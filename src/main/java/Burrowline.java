@@ -342,11 +342,8 @@ public final class Burrowline {
     }
 
     public int drops(int code) {
-        int place = code - LEAST_CODE;
-        if (code < LEAST_CODE || code > MOST_CODE || place >= told.length) {
-            throw new IllegalArgumentException("no such code");
-        }
-        return told[place];
+        checkRange(code, LEAST_CODE, MOST_CODE);
+        return told[code - LEAST_CODE];
     }
 
     public int publicOf(int secret) {
@@ -365,7 +362,8 @@ public final class Burrowline {
         checkRange(first, NONE, MOST_LOAD);
         checkRange(second, NONE, MOST_LOAD);
         checkRange(third, NONE, MOST_LOAD);
-        return Numbers.sealOfThree(key, first, second, third);
+        int[] others = {second, third};
+        return Numbers.sealOf(key, first, others, others.length);
     }
 
     public float share() {
@@ -462,7 +460,7 @@ public final class Burrowline {
         return net.get(letter);
     }
 
-    private void checkRange(int number, int least, int most) {
+    private static void checkRange(int number, int least, int most) {
         if (number < least || number > most) {
             throw new IllegalArgumentException("out of range");
         }
@@ -852,13 +850,13 @@ public final class Burrowline {
             return mixed == 0 ? 1 : mixed;
         }
 
-        /** The seal of numbers of which the first one is given, and the others are sealed already. */
-        static int layer(int key, int first, int others) {
-            return (int) Math.floorMod(((long) others + first + 2) * key, (long) Q);
-        }
-
-        static int sealOfThree(int key, int first, int second, int third) {
-            return layer(key, first, layer(key, second, layer(key, third, 0)));
+        /** The seal of one number and of as many others as are counted. */
+        static int sealOf(int key, int first, int[] others, int count) {
+            long seal = 0;
+            for (int i = Math.min(count, others.length) - 1; i >= 0; i--) {
+                seal = Math.floorMod((seal + others[i] + 2) * key, (long) Q);
+            }
+            return (int) Math.floorMod((seal + first + 2) * key, (long) Q);
         }
 
         static long added(long sum, int number) {
@@ -1123,7 +1121,7 @@ public final class Burrowline {
         /** Puts the tag in its place and answers it; the fields before it must stand. */
         int sealWith(int sealingKey) {
             key = sealingKey;
-            int tag = sealBy(sealingKey);
+            int tag = Numbers.sealOf(sealingKey, kind, fields, tagPlace);
             if (tagPlace >= 0 && tagPlace < fields.length) {
                 fields[tagPlace] = tag;
             }
@@ -1131,15 +1129,7 @@ public final class Burrowline {
         }
 
         boolean isRightBy(int sealingKey) {
-            return tag() == sealBy(sealingKey);
-        }
-
-        private int sealBy(int sealingKey) {
-            int seal = 0;
-            for (int i = tagPlace - 1; i >= 0; i--) {
-                seal = Numbers.layer(sealingKey, fieldAt(i), seal);
-            }
-            return Numbers.layer(sealingKey, kind, seal);
+            return tag() == Numbers.sealOf(sealingKey, kind, fields, tagPlace);
         }
 
         boolean canTurn(int field) {
