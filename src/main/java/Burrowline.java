@@ -98,14 +98,14 @@ public final class Burrowline {
         checkRange(prefix, 0, MOST_INNER);
         checkRange(bits, 0, MOST_BITS);
         int top = topBits(prefix, bits);
-        Route same = owner.routeOf(top, bits);
-        if (same == null && owner.routes.size() >= MOST_ROUTES) {
+        int place = owner.placeOfRoute(top, bits);
+        if (place == NONE && owner.routes.size() >= MOST_ROUTES) {
             throw new IllegalStateException("the table is full");
         }
-        if (same == null) {
-            owner.routes.add(new Route(top, bits, peer));
+        if (place >= 0 && place < owner.routes.size()) {
+            owner.routes.get(place).peer = peer;
         } else {
-            same.peer = peer;
+            owner.routes.add(new Route(top, bits, peer));
         }
         return owner.routes.size();
     }
@@ -114,11 +114,11 @@ public final class Burrowline {
         End owner = endAt(end);
         checkRange(prefix, 0, MOST_INNER);
         checkRange(bits, 0, MOST_BITS);
-        int top = topBits(prefix, bits);
-        if (owner.routeOf(top, bits) == null) {
+        int place = owner.placeOfRoute(topBits(prefix, bits), bits);
+        if (place < 0 || place >= owner.routes.size()) {
             throw new NoSuchElementException("no such route");
         }
-        owner.removeRoute(top, bits);
+        owner.routes.remove(place);
         return owner.routes.size();
     }
 
@@ -905,24 +905,14 @@ public final class Burrowline {
             return null;
         }
 
-        Route routeOf(int prefix, int bits) {
+        int placeOfRoute(int prefix, int bits) {
             for (int i = 0; i < routes.size(); i++) {
                 Route route = routes.get(i);
                 if (route.prefix == prefix && route.bits == bits) {
-                    return route;
+                    return i;
                 }
             }
-            return null;
-        }
-
-        void removeRoute(int prefix, int bits) {
-            for (int i = 0; i < routes.size(); i++) {
-                Route route = routes.get(i);
-                if (route.prefix == prefix && route.bits == bits) {
-                    routes.remove(i);
-                    return;
-                }
-            }
+            return NONE;
         }
 
         int peerFor(int inner) {
