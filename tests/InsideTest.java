@@ -5,18 +5,9 @@ import java.util.List;
  * What calls alone can't bring about in 512 of them: the end of time, and a house that is not sound. The
  * test reaches into the object for it, so that it goes with the names of the fields inside.
  */
-public final class InsideTest {
-    private static int wrong = 0;
-
+public final class InsideTest extends Checks {
     private interface Harm {
         void go(Burrowline x) throws ReflectiveOperationException;
-    }
-
-    private static void check(String what, boolean isSo) {
-        if (!isSo) {
-            wrong++;
-            System.out.println("not so: " + what);
-        }
     }
 
     private static Field field(Object of, String name) throws ReflectiveOperationException {
@@ -56,9 +47,9 @@ public final class InsideTest {
         x.greet(0, 1);
         x.deliver(0);
         x.keep(0, 2);
-        check("sound before " + what, x.isSound());
+        is("sound before " + what, x.isSound());
         harm.go(x);
-        check((isSoundStill ? "sound" : "not sound") + " after " + what, x.isSound() == isSoundStill);
+        is((isSoundStill ? "sound" : "not sound") + " after " + what, x.isSound() == isSoundStill);
     }
 
     private static void unsoundSessions() throws ReflectiveOperationException {
@@ -104,35 +95,59 @@ public final class InsideTest {
         });
     }
 
+    private static Burrowline at(int time) throws ReflectiveOperationException {
+        Burrowline x = met();
+        set(x, "time", time);
+        return x;
+    }
+
     private static void endOfTime() throws ReflectiveOperationException {
-        Burrowline x = new Burrowline();
-        set(x, "time", 499999940);
-        check("pass to the end of time", x.pass(60) == 500000000);
-        for (int ticks : new int[] {1, 60, 0, 61}) {
-            String want = ticks == 1 || ticks == 60 ? "IllegalStateException" : "IllegalArgumentException";
-            String got = "nothing";
-            try {
-                x.pass(ticks);
-            } catch (RuntimeException e) {
-                got = e.getClass().getSimpleName();
+        same("pass(60) to the end of time", at(499999940).pass(60), 500000000);
+        same("pass(1) to the end of time", at(499999999).pass(1), 500000000);
+        for (int ticks : new int[] {1, 60}) {
+            Burrowline x = at(500000001 - ticks);
+            noState("pass(" + ticks + ") beyond the end of time", x, () -> x.pass(ticks));
+        }
+        Burrowline x = at(500000000);
+        for (int ticks : besides(1, 60)) {
+            noArgument("pass(" + ticks + ") at the end of time", x, () -> x.pass(ticks));
+        }
+        same("now is as it was", x.now(), 500000000);
+    }
+
+    private static void agesAtTheEndOfTime() throws ReflectiveOperationException {
+        Burrowline x = met();
+        for (int end = 0; end < 3; end++) {
+            x.greet(end, (end + 1) % 3);
+            for (int i = 0; i < 3; i++) {
+                x.deliver(0);
             }
-            check("pass(" + ticks + ") at the end of time throws " + got, got.equals(want));
         }
-        check("now is as it was", x.now() == 500000000);
+        set(x, "time", 500000000);
+        same("an age", x.session(2, 1, 1, 2), 500000000);
+        is("the mean of six, whose sum is no int", x.meanAge() == 500000000.0);
+        isNot("usable", x.isUsable(0, 1));
+    }
+
+    private static void stampsAtTheEndOfTime() throws ReflectiveOperationException {
+        Burrowline x = at(500000000);
         x.greet(0, 1);
-        check("a stamp at the end of time", x.stamp(0, 1, true) == 2000000000);
+        same("a stamp", x.stamp(0, 1, true), 2000000000);
+        x.twice(0);
         for (int i = 1; i <= 20; i++) {
-            check("a turned stamp", x.turn(0, 3, 500) == 2000000000 + 500 * i);
+            same("a turned stamp", x.turn(0, 3, 500), 2000000000 + 500 * i);
         }
-        check("is bad", x.deliver(0) == -2);
+        same("is bad", x.deliver(0), -2);
+        same("its double", x.deliver(0), 3);
+        same("the stamp taken", x.stamp(1, 0, false), 2000000000);
     }
 
     public static void main(String[] args) throws ReflectiveOperationException {
         unsoundSessions();
         unsoundLetters();
         endOfTime();
-        if (wrong > 0) {
-            System.exit(1);
-        }
+        agesAtTheEndOfTime();
+        stampsAtTheEndOfTime();
+        finish();
     }
 }

@@ -1,193 +1,5 @@
-import java.math.BigInteger;
-import java.util.NoSuchElementException;
-
-/** The promises of the document one by one: ordinary inputs, edges and wrong inputs. */
-public final class PromiseTest {
-    private static int wrong = 0;
-    private static final int MIN = Integer.MIN_VALUE;
-    private static final int MAX = Integer.MAX_VALUE;
-
-    private interface Call {
-        void go();
-    }
-
-    // ---------------------------------------------------------------- helpers
-
-    private static void same(String what, long got, long want) {
-        if (got != want) {
-            wrong++;
-            System.out.println(what + " answered " + got + ", due is " + want);
-        }
-    }
-
-    private static void is(String what, boolean got) {
-        same(what, got ? 1 : 0, 1);
-    }
-
-    private static void isNot(String what, boolean got) {
-        same(what, got ? 1 : 0, 0);
-    }
-
-    private static void throwsJust(Class<?> want, String what, Burrowline x, Call call) {
-        String before = all(x);
-        String got = "nothing";
-        try {
-            call.go();
-        } catch (RuntimeException e) {
-            // The class is to throw itself: what a list or the machine throws has another place on top.
-            boolean isOwn = e.getStackTrace()[0].getClassName().startsWith("Burrowline");
-            got = e.getClass().getSimpleName() + (isOwn ? "" : " of the library");
-        }
-        if (!got.equals(want.getSimpleName())) {
-            wrong++;
-            System.out.println(what + " threw " + got + ", due is " + want.getSimpleName());
-        }
-        if (!all(x).equals(before)) {
-            wrong++;
-            System.out.println(what + " threw and changed something");
-        }
-    }
-
-    private static void noIndex(String what, Burrowline x, Call call) {
-        throwsJust(IndexOutOfBoundsException.class, what, x, call);
-    }
-
-    private static void noArgument(String what, Burrowline x, Call call) {
-        throwsJust(IllegalArgumentException.class, what, x, call);
-    }
-
-    private static void noState(String what, Burrowline x, Call call) {
-        throwsJust(IllegalStateException.class, what, x, call);
-    }
-
-    private static void noElement(String what, Burrowline x, Call call) {
-        throwsJust(NoSuchElementException.class, what, x, call);
-    }
-
-    /** All that can be asked of an object, as a text. */
-    private static String all(Burrowline x) {
-        StringBuilder s = new StringBuilder();
-        s.append(x.checksum()).append(' ').append(x.now()).append(' ').append(x.letters()).append(' ');
-        for (int e = 0; e < 3; e++) {
-            s.append(x.address(e)).append(',').append(x.outs(e)).append(',');
-            for (int i = 0; i < 256; i++) {
-                s.append(x.route(e, i));
-            }
-            for (int p = 0; p < 3; p++) {
-                if (p != e) {
-                    s.append(x.known(e, p)).append(',').append(x.flight(e, p)).append(',').append(x.waiting(e, p));
-                    s.append(',').append(x.cookie(e, p)).append(',').append(x.stamp(e, p, true)).append(',');
-                    s.append(x.stamp(e, p, false)).append(',').append(x.isUsable(e, p)).append(sessions(x, e, p));
-                }
-            }
-        }
-        for (int i = 0; i < x.letters(); i++) {
-            for (int what = 0; what < 9; what++) {
-                s.append(x.letter(i, what)).append(',');
-            }
-            s.append(x.isTurned(i));
-        }
-        return s.append(x.share()).append(x.meanAge()).toString();
-    }
-
-    private static String sessions(Burrowline x, int e, int p) {
-        StringBuilder s = new StringBuilder();
-        for (int w = 0; w < 3; w++) {
-            for (int what = 0; what < 9 && hasSession(x, e, p, w); what++) {
-                s.append(x.session(e, p, w, what)).append(';');
-            }
-            s.append('|');
-        }
-        return s.toString();
-    }
-
-    private static boolean hasSession(Burrowline x, int e, int p, int which) {
-        try {
-            x.session(e, p, which, 0);
-            return true;
-        } catch (NoSuchElementException none) {
-            return false;
-        }
-    }
-
-    // The numbers of the document, reckoned apart from the class.
-
-    private static int pow(long b, long n) {
-        return BigInteger.valueOf(b).modPow(BigInteger.valueOf(n), BigInteger.valueOf(2039)).intValue();
-    }
-
-    private static int secretOfEnd(int end) {
-        return new int[] {211, 518, 825}[end];
-    }
-
-    private static int publicOfEnd(int end) {
-        return pow(7, secretOfEnd(end));
-    }
-
-    private static int secretOf(int n) {
-        return 577 * n % 1018 + 1;
-    }
-
-    private static int mix(int... numbers) {
-        long m = 17;
-        for (int v : numbers) {
-            m = Math.floorMod(31 * m + v + 2, 65521L);
-        }
-        return m == 0 ? 1 : (int) m;
-    }
-
-    private static int seal(int key, int... numbers) {
-        BigInteger sum = BigInteger.ZERO;
-        for (int i = 0; i < numbers.length; i++) {
-            sum = sum.add(BigInteger.valueOf(key).pow(i + 1).multiply(BigInteger.valueOf(numbers[i] + 2L)));
-        }
-        return sum.mod(BigInteger.valueOf(65521)).intValue();
-    }
-
-    private static int helloKey(int a, int b, int n) {
-        return mix(1, pow(publicOfEnd(b), secretOf(n)), pow(publicOfEnd(b), secretOfEnd(a)));
-    }
-
-    private static int replyKey(int a, int b, int n, int j) {
-        int publicX = pow(7, secretOf(n));
-        return mix(4, helloKey(a, b, n), pow(publicX, secretOf(j)), pow(publicOfEnd(a), secretOf(j)));
-    }
-
-    /** The end 0 sends to 1 what is for 128 and above, the end 1 to 0 what is below. */
-    private static Burrowline routed() {
-        Burrowline x = new Burrowline();
-        x.allow(0, 1, 128, 1);
-        x.allow(1, 0, 0, 1);
-        return x;
-    }
-
-    /** As routed(), with a session of the number 1 at the end 0, and of 2 at the end 1; no letters. */
-    private static Burrowline met() {
-        Burrowline x = routed();
-        x.greet(0, 1);
-        same("deliver of a hello", x.deliver(0), 3);
-        same("deliver of a reply", x.deliver(0), 3);
-        same("deliver of an empty letter", x.deliver(0), 2);
-        same("letters after the meeting", x.letters(), 0);
-        return x;
-    }
-
-    private static Burrowline met(int age) {
-        Burrowline x = met();
-        if (age > 0) {
-            x.pass(age);
-        }
-        return x;
-    }
-
-    private static void fields(String what, Burrowline x, int letter, int... want) {
-        for (int i = 0; i < want.length; i++) {
-            same(what + ", part " + i, x.letter(letter, i), want[i]);
-        }
-    }
-
-    // ---------------------------------------------------------------- promises
-
+/** The promises of the document one by one, as they are used. */
+public final class PromiseTest extends Checks {
     private static void promise1New() {
         same("NONE", Burrowline.NONE, -1);
         Burrowline x = new Burrowline();
@@ -320,7 +132,7 @@ public final class PromiseTest {
         same("waits", x.send(0, 1, 128, 3), 0);
         same("waiting", x.waiting(0, 1), 1);
         same("a hello", x.flight(0, 1), 1);
-        fields("the hello of a send", x, 0, 10, 20, 1, 1);
+        letter("the hello of a send", x, 0, 10, 20, 1, 1);
         x.pass(4);
         same("waits, fresh hello", x.send(0, 2, 128, 4), 0);
         same("no second hello", x.letters(), 1);
@@ -335,7 +147,7 @@ public final class PromiseTest {
         same("the second hello is taken", x.deliver(1), 3);
         same("its reply is taken", x.deliver(1), 3);
         for (int i = 0; i < 4; i++) {
-            fields("the waiting packets", x, i + 1, 10, 20, 4, 3, i, 2, 128, 4 + i);
+            letter("the waiting packets", x, i + 1, 10, 20, 4, 3, i, 2, 128, 4 + i);
         }
         same("none waits", x.waiting(0, 1), 0);
         noArgument("source -1", x, () -> x.send(0, -1, 0, 0));
@@ -353,7 +165,7 @@ public final class PromiseTest {
         Burrowline x = met(19);
         same("age 19", x.send(0, 0, 255, 9999), 1);
         same("age 19, no hello", x.letters(), 1);
-        fields("data", x, 0, 10, 20, 4, 2, 1, 0, 255, 9999);
+        letter("data", x, 0, 10, 20, 4, 2, 1, 0, 255, 9999);
         same("its tag", x.letter(0, 8), seal(x.session(0, 1, 1, 6), 4, 2, 1, 0, 255, 9999));
         x.pass(1);
         same("age 20", x.send(0, 0, 255, 0), 1);
@@ -384,7 +196,7 @@ public final class PromiseTest {
     private static void promise8Keep() {
         Burrowline x = met();
         is("keep", x.keep(0, 1));
-        fields("an empty letter", x, 0, 10, 20, 4, 2, 1, -1, -1, -1, seal(x.session(0, 1, 1, 6), 4, 2, 1, -1, -1, -1));
+        letter("an empty letter", x, 0, 10, 20, 4, 2, 1, -1, -1, -1, seal(x.session(0, 1, 1, 6), 4, 2, 1, -1, -1, -1));
         is("keep of the other side", x.keep(1, 0));
         isNot("keep without", x.keep(0, 2));
         same("two letters", x.letters(), 2);
@@ -413,7 +225,7 @@ public final class PromiseTest {
         x.pass(3);
         same("greet", x.greet(2, 1), 1);
         int tag = seal(helloKey(2, 1, 1), 1, 1, pow(7, 578), 21, 12);
-        fields("hello", x, 0, 30, 20, 1, 1, pow(7, 578), 21, 12, tag, 0);
+        letter("hello", x, 0, 30, 20, 1, 1, pow(7, 578), 21, 12, tag, 0);
         noState("a fresh one", x, () -> x.greet(2, 1));
         same("another way", x.greet(1, 2), 2);
         x.pass(4);
@@ -423,7 +235,7 @@ public final class PromiseTest {
         same("stamp by time", x.stamp(2, 1, true), 32);
         x.move(0, 40);
         same("greet of one that moved", x.greet(0, 1), 4);
-        fields("from where it is", x, 3, 40, 20, 1, 4);
+        letter("from where it is", x, 3, 40, 20, 1, 4);
         noArgument("greet itself", x, () -> x.greet(2, 2));
         noIndex("greet end 3", x, () -> x.greet(3, 3));
         noIndex("greet peer 3", x, () -> x.greet(0, 3));
@@ -438,8 +250,8 @@ public final class PromiseTest {
         x.reroute(0, 44);
         same("hello", x.deliver(0), 3);
         int key = replyKey(0, 1, 1, 2);
-        fields("double of the hello", x, 0, 10, 20, 1);
-        fields("reply", x, 1, 20, 44, 2, 2, 1, pow(7, secretOf(2)), seal(key, 2, 2, 1, pow(7, secretOf(2))), 0, 0);
+        letter("double of the hello", x, 0, 10, 20, 1);
+        letter("reply", x, 1, 20, 44, 2, 2, 1, pow(7, secretOf(2)), seal(key, 2, 2, 1, pow(7, secretOf(2))), 0, 0);
         same("from is known", x.known(1, 0), 44);
         same("stamp taken", x.stamp(1, 0, false), 1);
         int[] next = {2, 1, 0, 0, -1, 0, mix(5, key, 1), mix(5, key, 0), 0};
@@ -507,7 +319,7 @@ public final class PromiseTest {
         }
         isNot("no previous", hasSession(x, 0, 1, 0));
         same("its double", x.deliver(0), -1);
-        fields("an empty letter to the new address", x, 0, 10, 66, 4, 2, 0, -1, -1, -1);
+        letter("an empty letter to the new address", x, 0, 10, 66, 4, 2, 0, -1, -1, -1);
         x.greet(0, 1);
         x.move(2, 66);
         same("a hello to another", x.deliver(1), -1);
@@ -542,7 +354,7 @@ public final class PromiseTest {
         int helloTag = x.letter(0, 7);
         same("asked", x.deliver(0), -7);
         int c = mix(6, 518, 1, 10);
-        fields("a cookie", x, 0, 20, 10, 3, 1, c, seal(mix(3, publicOfEnd(1), helloTag), 3, 1, c), 0, 0, 0);
+        letter("a cookie", x, 0, 20, 10, 3, 1, c, seal(mix(3, publicOfEnd(1), helloTag), 3, 1, c), 0, 0, 0);
         isNot("no session of one that is asked", hasSession(x, 1, 0, 2));
         x.twice(0);
         x.turn(0, 1, 1);
@@ -696,7 +508,7 @@ public final class PromiseTest {
         x.later(0);
         same("an empty letter", x.deliver(0), 2);
         same("none waits", x.waiting(1, 0), 0);
-        fields("hello, then the packet", x, 1, 20, 10, 4, 1, 0, 200, 3, 1);
+        letter("hello, then the packet", x, 1, 20, 10, 4, 1, 0, 200, 3, 1);
         same("the hello is still in flight", x.flight(1, 0), 3);
         same("out", x.deliver(1), 1);
         same("the crossing hello", x.deliver(0), 3);
@@ -1191,9 +1003,6 @@ public final class PromiseTest {
         promise35To36Means();
         promise37Sound();
         promise38Checksum();
-        if (wrong > 0) {
-            System.out.println(wrong + " wrong");
-            System.exit(1);
-        }
+        finish();
     }
 }
