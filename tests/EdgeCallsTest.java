@@ -241,6 +241,7 @@ public final class EdgeCallsTest extends Checks {
 
     private static void twice() {
         Burrowline x = fourLetters();
+        x.reroute(0, 44);
         same("the first", x.twice(0), 5);
         order("the first", x, 1, 2, 3, 4, 1);
         same("the last", x.twice(4), 6);
@@ -588,6 +589,43 @@ public final class EdgeCallsTest extends Checks {
         same("of a new one", new Burrowline().checksum(), d);
     }
 
+    private static void checksumOfAll() {
+        Burrowline x = busy();
+        same("of a busy house", x.checksum(), sumOf(x, new int[] {1, 1, 1}, new int[] {0, 0, 1}));
+        fill(x, 60);
+        same("of a full net", x.checksum(), sumOf(x, new int[] {1, 1, 1}, new int[] {0, 0, 1}));
+        x = fullTable();
+        x.load(0, true);
+        x.load(2, false);
+        same("of a full table", x.checksum(), sumOf(x, new int[] {1, 1, 8}, new int[] {1, 0, 0}));
+        x = met();
+        x.greet(0, 1);
+        x.deliver(0);
+        x.deliver(0);
+        x.send(0, 5, 200, 4321);
+        x.deliver(1);
+        x.greet(0, 1);
+        x.deliver(1);
+        same("of all three sessions", x.checksum(), sumOf(x, new int[] {1, 1, 0}, new int[3]));
+    }
+
+    private static void checksumTellsNot() {
+        Burrowline x = new Burrowline();
+        long sum = x.checksum();
+        x.allow(0, 1, 0, 0);
+        long one = x.checksum();
+        x.allow(0, 2, 0, 0);
+        same("to whom a ROUTE goes", x.checksum(), one);
+        x.forbid(0, 0, 0);
+        same("what was before", x.checksum(), sum);
+        x.greet(0, 1);
+        x.turn(0, 3, 5);
+        x.turn(0, 3, -5);
+        Burrowline y = new Burrowline();
+        y.greet(0, 1);
+        same("which FIELD was TURNED", x.checksum(), y.checksum());
+    }
+
     private static void deeds() {
         sentence("Promise 2: Throws IllegalArgumentException if ticks is not 1 to 60", EdgeCallsTest::passTicks);
         sentence("Promise 3: Throws IllegalArgumentException if address is not 1 to 99, or another end has it",
@@ -654,6 +692,8 @@ public final class EdgeCallsTest extends Checks {
         sentence("Promise 36: 0 if there is none", EdgeCallsTest::meanOfNone);
         sentence("Promise 37: it is always so", EdgeCallsTest::soundAlways);
         sentence("Promise 38: as a 64-bit integer that wraps around", EdgeCallsTest::checksumWraps);
+        sentence("Promise 38: Returns a sum over all", EdgeCallsTest::checksumOfAll);
+        sentence("Promise 38: for each v in this order", EdgeCallsTest::checksumTellsNot);
         finish();
     }
 }

@@ -57,7 +57,8 @@ public final class EdgeDeliverTest extends Checks {
         same("no letter", x.letters(), 0);
         same("counted", x.drops(LOST), 4);
         same("nothing is KNOWN by them", x.known(0, 1), known);
-        same("the HELLO is in FLIGHT", x.flight(0, 1), 3);
+        same("their HELLOS are in FLIGHT still", x.flight(0, 1), 3);
+        same("their HELLOS are in FLIGHT still", x.flight(1, 0), 5);
     }
 
     private static void anotherEndGetsIt() {
@@ -193,8 +194,10 @@ public final class EdgeDeliverTest extends Checks {
         x.greet(0, 1);
         x.twice(0);
         x.twice(0);
+        x.reroute(1, 66);
         x.deliver(0);
         same("an equal STAMP", x.deliver(0), OLD);
+        same("nothing KNOWN", x.known(1, 0), 10);
         x.lose(1);
         x.pass(5);
         x.greet(0, 1);
@@ -298,6 +301,21 @@ public final class EdgeDeliverTest extends Checks {
         x.deliver(0);
         same("by a REPLY to the other side", x.session(1, 0, 0, 0), 4);
         same("the eldest is gone", x.session(1, 0, 1, 0), 5);
+    }
+
+    private static void staleOneIsPrevious() {
+        Burrowline x = met(60);
+        x.greet(0, 1);
+        x.deliver(0);
+        x.deliver(0);
+        x.deliver(0);
+        same("by a REPLY", x.session(0, 1, 0, 0), 1);
+        same("by DATA", x.session(1, 0, 0, 0), 2);
+        Burrowline y = sealed(40);
+        y.greet(0, 1);
+        y.deliver(0);
+        y.deliver(0);
+        same("one that sealed 40", y.session(0, 1, 0, 3), 40);
     }
 
     private static void nextStaysBesideAReply() {
@@ -719,6 +737,7 @@ public final class EdgeDeliverTest extends Checks {
             EdgeDeliverTest::replyBad);
         sentence("5: nothing is in FLIGHT to that peer any more; FROM is its KNOWN address", EdgeDeliverTest::replyTaken);
         sentence("5: what was CURRENT (or none) is PREVIOUS", EdgeDeliverTest::currentOrNoneIsPrevious);
+        sentence("5: what was CURRENT (or none) is PREVIOUS", EdgeDeliverTest::staleOneIsPrevious);
         sentence("5: and CURRENT is the session with the INDEX n", EdgeDeliverTest::nextStaysBesideAReply);
         sentence("5: Then the WAITING packets are sent (section 6); if there were none, an EMPTY letter is",
             EdgeDeliverTest::waitingByAReply);

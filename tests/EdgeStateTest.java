@@ -454,6 +454,10 @@ public final class EdgeStateTest extends Checks {
         same("8 at 2, not 6", x.stamp(0, 1, true), 8);
         same("in its letter", x.letter(0, 6), 8);
         same("each peer for itself", x.stamp(0, 2, true), 0);
+        Burrowline y = new Burrowline();
+        y.greet(0, 1);
+        y.greet(0, 2);
+        same("1 more than the one to that peer", y.letter(1, 6), 1);
     }
 
     private static void proofBelow60() {

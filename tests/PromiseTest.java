@@ -907,7 +907,7 @@ public final class PromiseTest extends Checks {
 
     private static void promise38Checksum() {
         Burrowline x = new Burrowline();
-        same("checksum of a new one", x.checksum(), checksum(x, new int[3], new int[3]));
+        same("checksum of a new one", x.checksum(), sumOf(x, new int[3], new int[3]));
         x = met();
         x.load(2, true);
         x.send(0, 1, 200, 55);
@@ -924,52 +924,10 @@ public final class PromiseTest extends Checks {
         }
         x.move(2, 3);
         x.turn(0, 5, -3);
-        same("checksum", x.checksum(), checksum(x, new int[] {1, 1, 0}, new int[] {0, 0, 1}));
+        same("checksum", x.checksum(), sumOf(x, new int[] {1, 1, 0}, new int[] {0, 0, 1}));
         long before = x.checksum();
         x.turn(0, 5, 1);
         isNot("a turn leaves the checksum", before == x.checksum());
-    }
-
-    /** The sum over all as it is told by the other calls. */
-    private static long checksum(Burrowline x, int[] routes, int[] loads) {
-        long d = 31 * 31 + x.now();
-        for (int e = 0; e < 3; e++) {
-            d = 31 * d + x.address(e);
-            d = 31 * d + loads[e];
-            d = 31 * d + routes[e];
-        }
-        for (int e = 0; e < 3; e++) {
-            for (int p = 0; p < 3; p++) {
-                if (p != e) {
-                    d = 31 * d + x.known(e, p);
-                    d = 31 * d + x.flight(e, p);
-                    d = 31 * d + x.stamp(e, p, false);
-                    d = 31 * d + x.waiting(e, p);
-                    for (int w = 0; w < 3; w++) {
-                        boolean isThere = hasSession(x, e, p, w);
-                        d = 31 * d + (isThere ? x.session(e, p, w, 0) : -1);
-                        for (int what : isThere ? new int[] {6, 3, 5} : new int[0]) {
-                            d = 31 * d + x.session(e, p, w, what);
-                        }
-                    }
-                }
-            }
-        }
-        for (int e = 0; e < 3; e++) {
-            d = 31 * d + x.outs(e);
-            for (int i = 0; i < x.outs(e); i++) {
-                d = 31 * d + x.out(e, i, 3);
-            }
-        }
-        for (int i = 0; i < x.letters(); i++) {
-            for (int what = 0; what < 9; what++) {
-                d = 31 * d + x.letter(i, what);
-            }
-        }
-        for (int code = -7; code <= 3; code++) {
-            d = 31 * d + x.drops(code);
-        }
-        return d;
     }
 
     public static void main(String[] args) {

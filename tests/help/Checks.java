@@ -194,6 +194,48 @@ class Checks {
         }
     }
 
+    /** The checksum by what the other calls tell, with how many ROUTES and which loads (0 or 1) the ends have. */
+    static long sumOf(Burrowline x, int[] routes, int[] loads) {
+        long d = 31 * 31 + x.now();
+        for (int e = 0; e < 3; e++) {
+            d = 31 * d + x.address(e);
+            d = 31 * d + loads[e];
+            d = 31 * d + routes[e];
+        }
+        for (int e = 0; e < 3; e++) {
+            for (int p = 0; p < 3; p++) {
+                if (p != e) {
+                    d = 31 * d + x.known(e, p);
+                    d = 31 * d + x.flight(e, p);
+                    d = 31 * d + x.stamp(e, p, false);
+                    d = 31 * d + x.waiting(e, p);
+                    for (int w = 0; w < 3; w++) {
+                        boolean isThere = hasSession(x, e, p, w);
+                        d = 31 * d + (isThere ? x.session(e, p, w, 0) : -1);
+                        for (int what : isThere ? new int[] {6, 3, 5} : new int[0]) {
+                            d = 31 * d + x.session(e, p, w, what);
+                        }
+                    }
+                }
+            }
+        }
+        for (int e = 0; e < 3; e++) {
+            d = 31 * d + x.outs(e);
+            for (int i = 0; i < x.outs(e); i++) {
+                d = 31 * d + x.out(e, i, 3);
+            }
+        }
+        for (int i = 0; i < x.letters(); i++) {
+            for (int what = 0; what < 9; what++) {
+                d = 31 * d + x.letter(i, what);
+            }
+        }
+        for (int code = -7; code <= 3; code++) {
+            d = 31 * d + x.drops(code);
+        }
+        return d;
+    }
+
     // ---------------------------------------------------------------- the numbers of the document
 
     static int pow(long b, long n) {

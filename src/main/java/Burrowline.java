@@ -531,13 +531,13 @@ public final class Burrowline {
         int secret = Numbers.secretOf(lastNumber);
         link.stampSent = Math.max(4 * time, link.stampSent + 1);
         Letter hello = new Letter(HELLO, end.address, link.known);
-        hello.fields[0] = lastNumber;
-        hello.fields[1] = Numbers.publicNumber(secret);
-        hello.fields[2] = 10 * end.number + link.peer;
-        hello.fields[3] = link.stampSent;
+        hello.put(0, lastNumber);
+        hello.put(1, Numbers.publicNumber(secret));
+        hello.put(2, 10 * end.number + link.peer);
+        hello.put(3, link.stampSent);
         int tag = hello.sealWith(helloKey(link, Numbers.power(link.peerPublic, secret)));
         int cookie = youngCookie(link);
-        hello.fields[5] = cookie == NONE ? 0 : Numbers.mix(2, cookie, tag);
+        hello.put(5, cookie == NONE ? 0 : Numbers.mix(2, cookie, tag));
         link.flight = new Flight(lastNumber, secret, tag, time);
         post(hello);
         return lastNumber;
@@ -548,35 +548,32 @@ public final class Burrowline {
         lastNumber++;
         int secret = Numbers.secretOf(lastNumber);
         Letter reply = new Letter(REPLY, end.address, link.known);
-        reply.fields[0] = lastNumber;
-        reply.fields[1] = hello.fields[0];
-        reply.fields[2] = Numbers.publicNumber(secret);
-        int freshShared = Numbers.power(hello.fields[1], secret);
+        reply.put(0, lastNumber);
+        reply.put(1, hello.fieldAt(0));
+        reply.put(2, Numbers.publicNumber(secret));
+        int freshShared = Numbers.power(hello.fieldAt(1), secret);
         int halfShared = Numbers.power(link.peerPublic, secret);
         int key = Numbers.mixOfFour(4, helloKey, freshShared, halfShared);
         reply.sealWith(key);
         post(reply);
-        Session offered = new Session(lastNumber, hello.fields[0], time, false);
-        offered.sending = Numbers.mix(5, key, 1);
-        offered.receiving = Numbers.mix(5, key, 0);
-        link.next = offered;
+        link.next = new Session(lastNumber, hello.fieldAt(0), time, false, key);
     }
 
     private void sendCookie(End end, Letter hello, int cookie) {
         Letter answer = new Letter(COOKIE, end.address, hello.from);
-        answer.fields[0] = hello.fields[0];
-        answer.fields[1] = cookie;
+        answer.put(0, hello.fieldAt(0));
+        answer.put(1, cookie);
         answer.sealWith(Numbers.mix(3, Numbers.publicNumber(end.secret), hello.tag()));
         post(answer);
     }
 
     private void sendData(End end, Link link, Session session, int source, int dest, int load) {
         Letter data = new Letter(DATA, end.address, link.known);
-        data.fields[0] = session.other;
-        data.fields[1] = session.sealed;
-        data.fields[2] = source;
-        data.fields[3] = dest;
-        data.fields[4] = load;
+        data.put(0, session.other);
+        data.put(1, session.sealed);
+        data.put(2, source);
+        data.put(3, dest);
+        data.put(4, load);
         data.sealWith(session.sending);
         session.sealed++;
         post(data);
@@ -600,45 +597,43 @@ public final class Burrowline {
     // ---- taking what is delivered
 
     private int takeHello(End end, Letter hello) {
-        int way = hello.fields[2];
+        int way = hello.fieldAt(2);
         Link link = end.linkTo(way / 10);
         if (link == null || way % 10 != end.number) {
             return UNKNOWN;
         }
         int cookie = Numbers.mixOfFour(6, end.secret, time / COOKIE_AGE, hello.from);
-        if (end.isLoaded && hello.fields[5] != Numbers.mix(2, cookie, hello.tag())) {
+        if (end.isLoaded && hello.fieldAt(5) != Numbers.mix(2, cookie, hello.tag())) {
             sendCookie(end, hello, cookie);
             return ASKED;
         }
-        int key = helloKey(link, Numbers.power(hello.fields[1], end.secret));
+        int key = helloKey(link, Numbers.power(hello.fieldAt(1), end.secret));
         if (!hello.isRightBy(key)) {
             return BAD;
         }
-        if (hello.fields[3] <= link.stampTaken) {
+        if (hello.fieldAt(3) <= link.stampTaken) {
             return OLD;
         }
-        link.stampTaken = hello.fields[3];
+        link.stampTaken = hello.fieldAt(3);
         link.known = hello.from;
         sendReply(end, link, hello, key);
         return TAKEN;
     }
 
     private int takeReply(End end, Letter reply) {
-        Link link = end.linkWithFlight(reply.fields[1]);
+        Link link = end.linkWithFlight(reply.fieldAt(1));
         if (link == null || link.flight == null) {
             return UNKNOWN;
         }
         Flight flight = link.flight;
         int answered = helloKey(link, Numbers.power(link.peerPublic, flight.secret));
-        int freshShared = Numbers.power(reply.fields[2], flight.secret);
-        int halfShared = Numbers.power(reply.fields[2], end.secret);
+        int freshShared = Numbers.power(reply.fieldAt(2), flight.secret);
+        int halfShared = Numbers.power(reply.fieldAt(2), end.secret);
         int key = Numbers.mixOfFour(4, answered, freshShared, halfShared);
         if (!reply.isRightBy(key)) {
             return BAD;
         }
-        Session begun = new Session(flight.index, reply.fields[0], time, true);
-        begun.sending = Numbers.mix(5, key, 0);
-        begun.receiving = Numbers.mix(5, key, 1);
+        Session begun = new Session(flight.index, reply.fieldAt(0), time, true, key);
         link.flight = null;
         link.known = reply.from;
         link.previous = link.current;
@@ -652,21 +647,21 @@ public final class Burrowline {
     }
 
     private int takeCookie(End end, Letter answer) {
-        Link link = end.linkWithFlight(answer.fields[0]);
+        Link link = end.linkWithFlight(answer.fieldAt(0));
         if (link == null || link.flight == null) {
             return UNKNOWN;
         }
         if (!answer.isRightBy(Numbers.mix(3, link.peerPublic, link.flight.tag))) {
             return BAD;
         }
-        link.cookie = answer.fields[1];
+        link.cookie = answer.fieldAt(1);
         link.cookieCame = time;
         return TAKEN;
     }
 
     private int takeData(End end, Letter data) {
-        Link link = end.linkWithSession(data.fields[0]);
-        Session session = link == null ? null : link.sessionWith(data.fields[0]);
+        Link link = end.linkWithSession(data.fieldAt(0));
+        Session session = link == null ? null : link.sessionWith(data.fieldAt(0));
         if (session == null) {
             return UNKNOWN;
         }
@@ -676,10 +671,10 @@ public final class Burrowline {
         if (!data.isRightBy(session.receiving)) {
             return BAD;
         }
-        if (!session.canTake(data.fields[1])) {
+        if (!session.canTake(data.fieldAt(1))) {
             return REPLAYED;
         }
-        session.take(data.fields[1]);
+        session.take(data.fieldAt(1));
         link.known = data.from;
         if (session == link.next) {
             link.previous = link.current;
@@ -691,7 +686,7 @@ public final class Burrowline {
     }
 
     private int bringOut(End end, Link link, Letter data) {
-        int source = data.fields[2];
+        int source = data.fieldAt(2);
         // Only an empty letter has a source below 0: a turned one would not have come so far.
         if (source == NONE) {
             return ALIVE;
@@ -700,7 +695,7 @@ public final class Burrowline {
             return FOREIGN;
         }
         if (end.outs.size() < MOST_OUTS) {
-            end.outs.add(new Packet(link.peer, source, data.fields[3], data.fields[4]));
+            end.outs.add(new Packet(link.peer, source, data.fieldAt(3), data.fieldAt(4)));
         }
         return OUT;
     }
@@ -1014,19 +1009,21 @@ public final class Burrowline {
         final int other;
         final int made;
         final boolean began;
-        int sending = 0;
-        int receiving = 0;
+        final int sending;
+        final int receiving;
         int sealed = 0;
         int took = 0;
         int greatest = NONE;
         // Bit c stands for the counter c: a session seals 40 letters at most, so a long has room.
         long taken = 0;
 
-        Session(int index, int other, int made, boolean began) {
+        Session(int index, int other, int made, boolean began, int key) {
             this.index = index;
             this.other = other;
             this.made = made;
             this.began = began;
+            this.sending = Numbers.mix(5, key, began ? 0 : 1);
+            this.receiving = Numbers.mix(5, key, began ? 1 : 0);
         }
 
         boolean canTake(int counter) {
@@ -1092,7 +1089,7 @@ public final class Burrowline {
         Letter twin() {
             Letter twin = new Letter(kind, from, to);
             for (int i = 0; i < FIELDS; i++) {
-                twin.fields[i] = fields[i];
+                twin.put(i, fieldAt(i));
             }
             twin.key = key;
             twin.turnedField = turnedField;
@@ -1104,6 +1101,12 @@ public final class Burrowline {
             return field >= 0 && field < fields.length ? fields[field] : 0;
         }
 
+        void put(int field, int value) {
+            if (field >= 0 && field < fields.length) {
+                fields[field] = value;
+            }
+        }
+
         int tag() {
             return fieldAt(tagPlace);
         }
@@ -1112,9 +1115,7 @@ public final class Burrowline {
         int sealWith(int sealingKey) {
             key = sealingKey;
             int tag = Numbers.sealOf(sealingKey, kind, fields, tagPlace);
-            if (tagPlace >= 0 && tagPlace < fields.length) {
-                fields[tagPlace] = tag;
-            }
+            put(tagPlace, tag);
             return tag;
         }
 
@@ -1136,15 +1137,12 @@ public final class Burrowline {
         }
 
         int turnBy(int field, int by) {
-            if (field < 0 || field >= fields.length) {
-                return 0;
-            }
             if (turnedField == NONE) {
                 turnedField = field;
-                original = fields[field];
+                original = fieldAt(field);
             }
-            fields[field] += by;
-            return fields[field];
+            put(field, fieldAt(field) + by);
+            return fieldAt(field);
         }
 
         boolean differs() {
