@@ -220,7 +220,7 @@ public final class ReadmeTest extends Checks {
         return x;
     }
 
-    /** The numbers to try for a parameter: those at the two ends of its range and beside them, or all of a short one. */
+    /** The numbers to try: those at the two ends of a range and beside them, or all of a short one. */
     private static List<Object> tried(Told call, int parameter, Burrowline x) {
         List<Object> tried = new ArrayList<>();
         if (call.method.getParameterTypes()[parameter] == boolean.class) {
